@@ -10,6 +10,9 @@ public final class CallsTest {
     sorts();
     moves();
     movesNotTo();
+    movesToCornerZero();
+    movesOfLonelyOnes();
+    hours();
     called();
     falses();
     asks();
@@ -332,5 +335,61 @@ public final class CallsTest {
     x.end(0);
     Due.feed(x, "1=1?p3");
     due.is("nor does the tape", x.asks(0, 1, 0), 2);
+  }
+
+  static void movesToCornerZero() {
+    due.part("promise 23, moves to corner 0");
+    CityBrigade x = new CityBrigade();
+    x.street(0, 1, 2);
+    x.street(1, 2, 2);
+    x.crew(0, 0, false, 100, 1);
+    x.crew(0, 2, false, 100, 1);
+    x.crew(2, 2, false, 100, 1);
+    Due.orders(x, "1=1?p1m1");
+    x.call(1);
+    due.is("the first pump goes", x.about(0, 0), 1);
+    due.is("the second pump moves", x.about(1, 0), 3);
+    due.is("to corner 0", x.about(1, 1), 0);
+  }
+
+  static void movesOfLonelyOnes() {
+    due.part("promise 23, no crew to move");
+    CityBrigade x = new CityBrigade();
+    for (int i = 0; i < 4; i++) x.street(i, i + 1, 2);
+    x.crew(2, 1, false, 100, 1);
+    x.crew(0, 2, false, 100, 1);
+    x.crew(0, 3, false, 100, 1);
+    x.crew(1, 1, false, 100, 1);
+    Due.orders(x, "1=1?s1l1m3");
+    x.call(0);
+    due.is("the ladder goes", x.about(0, 0), 1);
+    due.is("pump 1 is alone at its post", x.about(1, 0), 0);
+    due.is("pump 2 is alone at its post", x.about(2, 0), 0);
+    // One that only a crew on its way, or going, shares a corner with does not move either.
+    CityBrigade y = new CityBrigade();
+    for (int i = 0; i < 4; i++) y.street(i, i + 1, 2);
+    y.crew(2, 1, false, 100, 1);
+    y.crew(0, 0, false, 100, 1);
+    Due.orders(y, "1=1?l1m3");
+    y.call(0);
+    due.is("the ladder goes to corner 0", y.about(0, 1), 0);
+    due.is("the pump there stays", y.about(1, 0), 0);
+  }
+
+  static void hours() {
+    due.part("the hour");
+    CityBrigade x = new CityBrigade();
+    Due.orders(x, "h=6?p1;h=7?p2;h=23?p3;h=0?p4");
+    due.is("minute 0", x.asks(0, 1, 0), 4);
+    x.tick(300);
+    x.tick(119);
+    due.is("minute 419", x.asks(0, 1, 0), 1);
+    x.tick(1);
+    due.is("minute 420", x.asks(0, 1, 0), 2);
+    for (int i = 0; i < 3; i++) x.tick(300);
+    x.tick(119);
+    due.is("minute 1,439", x.asks(0, 1, 0), 3);
+    x.tick(1);
+    due.is("minute 1,440", x.asks(0, 1, 0), 4);
   }
 }

@@ -21,6 +21,12 @@ public final class HousesTest {
     stuffThatFallsIsBounded();
     fallOntoAFallenFloor();
     peopleAreLost();
+    fullHouses();
+    doorsLeadToNoOtherFloor();
+    besideALowerHouse();
+    loadOnTheEdge();
+    burningOnTheEdge();
+    whatIfAgain();
     whatIf();
     due.over();
   }
@@ -526,5 +532,131 @@ public final class HousesTest {
     due.is("from then on", x.what(0, 0, 0, 2), 8);
     due.is("a room of a fallen floor", x.what(0, 1, 100, 2), 8);
     due.is("BURNT as it is", x.housed(0, 1), 31);
+  }
+
+  static void fullHouses() {
+    due.part("full houses");
+    CityBrigade x = new CityBrigade();
+    for (int h = 0; h < 12; h++) {
+      x.house(h, 2, 6, 4, -1);
+      for (int f = 0; f < 6; f++) x.floor(h, f, 10 * h + f, f);
+    }
+    for (int h = 0; h < 12; h++) for (int r = 0; r < 24; r++) due.is("stuff of " + h + ", " + r, x.room(h, r, 1), 10 * h + r / 4);
+    x.floor(1, 0, 500, 0);
+    x.light(1, 0);
+    x.floor(0, 5, 0, 0);
+    x.light(0, 20);
+    x.light(0, 23);
+    due.is("no room of house 0 burns", x.housed(0, 0), 0);
+    x.tick(1);
+    due.is("the next house is not above this one", x.room(0, 20, 0), 390);
+    due.is("nor next to it", x.room(0, 23, 0), 390);
+    x.floor(11, 5, 500, 0);
+    x.light(11, 23);
+    due.is("the last room of the last house", x.housed(11, 0), 1);
+    x.tick(1);
+    due.is("its heat", x.room(11, 23, 0), 450);
+    due.is("its BURNT", x.floored(11, 5, 0), 2);
+    due.is("BURNT of the house", x.housed(11, 1), 2);
+    due.is("BURNT of the house ahead of it", x.housed(10, 1), 0);
+  }
+
+  static void doorsLeadToNoOtherFloor() {
+    due.part("doors lead to no other floor");
+    CityBrigade x = new CityBrigade();
+    x.house(0, 2, 2, 2, -1);
+    x.build(0, true, 0, 1);
+    x.floor(0, 1, 500, 0);
+    x.light(0, 2);
+    x.light(0, 1);
+    x.tick(1);
+    due.is("room 1 is not next to room 2", x.room(0, 1, 0), 390);
+    due.is("room 0 is below it", x.room(0, 0, 0), 0);
+    CityBrigade y = new CityBrigade();
+    y.house(0, 2, 2, 2, -1);
+    y.build(0, true, 0, 1);
+    y.floor(0, 0, 500, 0);
+    y.light(0, 1);
+    y.light(0, 2);
+    y.tick(1);
+    due.is("nor room 2 next to room 1", y.room(0, 2, 0), 390);
+  }
+
+  static void besideALowerHouse() {
+    due.part("beside a lower house");
+    CityBrigade x = new CityBrigade();
+    x.house(0, 2, 1, 1, -1);
+    x.house(0, 2, 2, 1, -1);
+    x.floor(0, 0, 500, 0);
+    x.light(0, 0);
+    x.light(1, 1);
+    x.tick(1);
+    due.is("nothing beside floor 1", x.room(1, 1, 0), 390);
+  }
+
+  /** Floor 0 burns so much in all, floor 1 a single one, if so: does floor 1 fall? */
+  static int falls(int kind, int below, boolean one) {
+    CityBrigade x = new CityBrigade();
+    x.house(0, kind, 2, 1, -1);
+    x.floor(0, 0, below, 0);
+    x.light(0, 0);
+    if (one) {
+      x.floor(0, 1, 1, 0);
+      x.light(0, 1);
+    }
+    x.tick(100);
+    due.is("LOAD", x.floored(0, 1, 3), 2 * below + (one ? 1 : 0));
+    return x.floored(0, 1, 1);
+  }
+
+  static void loadOnTheEdge() {
+    due.part("LOAD on the edge");
+    int[] loads = {60, 100, 140};
+    for (int kind = 0; kind < 3; kind++) {
+      due.is("kind " + kind + ", as much as that", falls(kind, loads[kind] / 2, false), 1);
+      due.is("kind " + kind + ", one less", falls(kind, loads[kind] / 2 - 1, true), 0);
+      due.is("kind " + kind + ", one more", falls(kind, loads[kind] / 2, true), 1);
+    }
+  }
+
+  static void burningOnTheEdge() {
+    due.part("HEAT on the edge");
+    // Three rooms beside, both walls 3: 9 a minute, so a room without stuff cools by 1.
+    CityBrigade x = new CityBrigade();
+    x.house(3, 2, 1, 3, -1);
+    x.house(3, 2, 1, 1, -1);
+    x.build(0, false, 3, 1);
+    x.build(1, false, 3, 1);
+    x.floor(0, 0, 500, 0);
+    for (int r = 0; r < 3; r++) x.light(0, r);
+    x.light(1, 0);
+    x.tick(50);
+    x.floor(0, 0, 500, 0);
+    x.tick(50);
+    due.is("HEAT 300", x.room(1, 0, 0), 300);
+    x.floor(1, 0, 9, 0);
+    due.is("burns", x.room(1, 0, 2), 1);
+    x.floor(1, 0, 0, 0);
+    x.tick(1);
+    due.is("HEAT 299", x.room(1, 0, 0), 299);
+    x.floor(1, 0, 9, 0);
+    due.is("does not", x.room(1, 0, 2), 0);
+  }
+
+  static void whatIfAgain() {
+    due.part("promise 52, again");
+    CityBrigade x = new CityBrigade();
+    x.house(0, 0, 3, 1, -1);
+    x.floor(0, 0, 100, 0);
+    x.floor(0, 1, 100, 0);
+    x.floor(0, 2, 100, 0);
+    x.light(0, 0);
+    int all = x.what(0, 0, 0, 200);
+    // Floor 1 falls and burns below; floor 2 has nothing that burns below it then.
+    due.is("all of two floors", all, 200);
+    due.is("again", x.what(0, 0, 0, 200), all);
+    due.is("with water first", x.what(0, 0, 500, 10), 4);
+    due.is("and without it again", x.what(0, 0, 0, 10), 31);
+    due.is("nothing has fallen", x.housed(0, 4), 0);
   }
 }

@@ -15,6 +15,7 @@ public final class LawTest {
     letters();
     days();
     failing();
+    firstOnes();
     due.over();
   }
 
@@ -259,5 +260,17 @@ public final class LawTest {
     due.is("and 1 by its own act", x.failing(), 1 << 1 | 1 << 2 | 1 << 5 | 1 << 8 | 1 << 11);
     Due.act(x, "1=2?1", 1);
     due.is("as known NOW", x.failing(), 1 << 1);
+  }
+
+  static void firstOnes() {
+    due.part("the first of all");
+    CityBrigade x = new CityBrigade();
+    x.house(0, 0, 2, 1, -1);
+    x.change(0, 3, 0);
+    due.no("use behind the first change", x.use(0, 1));
+    x.floor(0, 0, 50, 0);
+    Due.act(x, "g=50?1", 1);
+    due.is("the greatest one is on floor 0", x.fails(0, 0), 1);
+    due.is("house 0 fails", x.failing(), 1);
   }
 }

@@ -19,6 +19,12 @@ public final class MinutesTest {
     chiefChooses();
     chiefElsewhere();
     chiefSeesWaterAsked();
+    chiefAheadOfAll();
+    chiefByTheMinute();
+    chiefByQuarters();
+    noRoomLeft();
+    heatByWater();
+    mainsMinuteByMinute();
     reachLimitsWork();
     pressure();
     mainsShare();
@@ -552,6 +558,8 @@ public final class MinutesTest {
     x.call(1);
     x.tick(2);
     due.yes("a text: " + condition, Due.leaving(x, condition));
+    // The letters of orders are asked in between.
+    x.asks(0, 3, 0);
     x.tick(1);
     due.is("at work", x.about(0, 0), 2);
     return x.about(0, 8) == 20;
@@ -599,6 +607,7 @@ public final class MinutesTest {
     due.is("till 11", x.about(0, 2), 11);
     due.is("it got in the last minute", x.about(0, 8), 500);
     due.is("the ladder is READY", x.about(1, 0), 0);
+    due.is("in no house", x.about(1, 4), -1);
     due.is("saved", x.housed(0, 2), 4);
     due.is("nobody at work", x.housed(0, 5), 0);
     x.tick(1);
@@ -735,5 +744,133 @@ public final class MinutesTest {
     x.call(1);
     due.is("slower this time", x.about(0, 2), 21 + 11);
     due.is("as ever", x.about(1, 2), 21 + 10);
+  }
+
+  static void chiefAheadOfAll() {
+    due.part("a chief that is the first crew");
+    CityBrigade x = city("1=1?p1c1");
+    x.main(2000);
+    x.head(1, 0);
+    x.house(1, 2, 2, 1, -1);
+    x.floor(0, 0, 500, 0);
+    x.floor(0, 1, 500, 0);
+    x.crew(3, 1, false, 100, 1);
+    x.crew(0, 1, false, 100, 1);
+    x.light(0, 1);
+    x.tick(1);
+    x.light(0, 0);
+    x.call(1);
+    x.tick(1);
+    due.is("on floor 1", x.about(1, 5), 1);
+  }
+
+  static void chiefByTheMinute() {
+    due.part("a chief sees this minute's water alone");
+    CityBrigade x = works("1=1?p1c1", 1, 80);
+    x.crew(3, 1, false, 100, 1);
+    x.light(0, 4);
+    x.tick(1);
+    x.light(0, 0);
+    x.call(1);
+    // Room 4: 450, 480, 510; room 0: 400, 450, 500: if the water of three minutes counted, room 0 came first.
+    x.tick(3);
+    due.is("room 4", x.room(0, 4, 0), 540);
+    due.is("room 0", x.room(0, 0, 0), 550);
+    due.is("still on floor 2 in minute 4", x.about(0, 5), 2);
+    x.tick(1);
+    due.is("now room 0", x.about(0, 5), 0);
+  }
+
+  static int second(int gallons) {
+    CityBrigade x = works("1=1?p2c1", 2, gallons);
+    x.crew(3, 1, false, 100, 1);
+    x.light(0, 4);
+    x.tick(1);
+    x.light(0, 0);
+    x.call(1);
+    x.tick(1);
+    due.is("the first one", x.about(0, 5), 2);
+    return x.about(1, 5);
+  }
+
+  static void chiefByQuarters() {
+    due.part("HEAT less the water by 4");
+    due.is("450 less 49 is above 400", second(199), 2);
+    due.is("450 less 50 is 400: the lower one", second(203), 0);
+    due.is("450 less 51", second(204), 0);
+  }
+
+  static void noRoomLeft() {
+    due.part("no room left in reach");
+    CityBrigade x = city("1=1?p1");
+    x.main(2000);
+    x.head(1, 0);
+    x.house(1, 2, 6, 1, -1);
+    x.floor(0, 0, 500, 0);
+    x.floor(0, 5, 500, 0);
+    x.crew(0, 1, false, 100, 1);
+    x.light(0, 0);
+    x.light(0, 5);
+    x.call(1);
+    x.tick(1);
+    due.is("on floor 0", x.about(0, 5), 0);
+    x.floor(0, 0, 0, 0);
+    x.tick(1);
+    due.is("at work", x.about(0, 0), 2);
+    due.is("on no floor", x.about(0, 5), -1);
+    due.is("no water", x.about(0, 8), 0);
+    due.is("gallons", x.housed(0, 6), 10);
+  }
+
+  static void heatByWater() {
+    due.part("HEAT by water");
+    CityBrigade x = city("1=1?p1");
+    x.main(2000);
+    x.head(1, 0);
+    x.house(1, 2, 1, 1, -1);
+    x.floor(0, 0, 500, 5);
+    x.crew(0, 1, false, 100, 1);
+    x.gear(0, 100, 68, 0);
+    x.light(0, 0);
+    x.tick(2);
+    x.call(1);
+    x.tick(3);
+    due.is("500 and three times 33", x.room(0, 0, 0), 599);
+    due.is("599 is not enough", x.housed(0, 3), 0);
+    x.tick(1);
+    due.is("632 is", x.housed(0, 3), 1);
+    CityBrigade y = city("1=1?p1");
+    y.main(2000);
+    y.head(1, 0);
+    y.house(1, 2, 1, 1, -1);
+    y.floor(0, 0, 500, 0);
+    y.crew(0, 1, false, 100, 1);
+    y.light(0, 0);
+    y.tick(1);
+    y.call(1);
+    y.tick(1);
+    due.is("450 and 48", y.room(0, 0, 0), 498);
+    y.tick(1);
+    due.is("498 by 250, cut", y.floored(0, 0, 0), 6);
+  }
+
+  static void mainsMinuteByMinute() {
+    due.part("a main gives every minute");
+    CityBrigade x = city("1=1?p2");
+    x.main(100);
+    x.head(1, 0);
+    x.house(1, 2, 1, 1, -1);
+    x.floor(0, 0, 500, 0);
+    for (int i = 0; i < 2; i++) {
+      x.crew(0, 1, false, 100, 1);
+      x.gear(i, 100, 50, 0);
+    }
+    x.light(0, 0);
+    x.call(1);
+    for (int i = 1; i <= 4; i++) {
+      x.tick(1);
+      due.is("all it asks in minute " + i, x.about(0, 8), 50);
+    }
+    due.is("gallons", x.housed(0, 6), 400);
   }
 }

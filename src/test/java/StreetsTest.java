@@ -10,6 +10,8 @@ public final class StreetsTest {
     come();
     comeWhereLaterIsSooner();
     comeWithin600();
+    comeIsCutUp();
+    everyStreetJams();
     feet();
     due.over();
   }
@@ -167,5 +169,41 @@ public final class StreetsTest {
     x.street(3, 4, 1);
     x.street(4, 0, 2);
     due.is("feet(3, 2), two parts joined", x.feet(3, 2), 1700);
+  }
+
+  static void comeIsCutUp() {
+    due.part("promise 5, cut up");
+    CityBrigade x = new CityBrigade();
+    x.street(0, 1, 1);
+    x.jam(0, 0, 113);
+    due.is("2.0001 minutes", x.come(0, 1, 0, 177), 3);
+    x.street(2, 3, 4);
+    x.jam(1, 0, 393);
+    due.is("47.0028 minutes", x.come(2, 3, 0, 299), 48);
+    x.jam(1, 0, 400);
+    due.is("40 minutes", x.come(2, 3, 0, 250), 40);
+    CityBrigade y = new CityBrigade();
+    for (int i = 0; i < 9; i++) {
+      y.street(i, i + 1, 20);
+      for (int part = 0; part < 4; part++) y.jam(i, part, 300);
+    }
+    y.street(9, 10, 19);
+    for (int part = 0; part < 4; part++) y.jam(9, part, 321);
+    // Nine of 60, and 60.99 cut up: 601 in all.
+    due.none("601 minutes", y.come(0, 10, 0, 100));
+    due.is("61 minutes", y.come(9, 10, 0, 100), 61);
+  }
+
+  static void everyStreetJams() {
+    due.part("promise 3, every street");
+    CityBrigade x = new CityBrigade();
+    for (int i = 0; i < 40; i++) x.street(i % 20, (i + 1) % 20, 10);
+    for (int s = 0; s < 40; s++) for (int part = 0; part < 4; part++) due.yes("jam(" + s + ", " + part + ", ..)", x.jam(s, part, 100 + 4 * s + part));
+    for (int s = 0; s < 20; s++) x.closed(s, true);
+    for (int s = 20; s < 40; s++) for (int part = 0; part < 4; part++) {
+      int takes = (1000 * (100 + 4 * s + part) + 9999) / 10000;
+      due.is("street " + s + " in part " + part, x.come(s % 20, (s + 1) % 20, 360 * part, 100), 360 * part + takes);
+    }
+    due.none("street 20", x.street(0, 2, 3));
   }
 }

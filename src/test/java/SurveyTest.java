@@ -11,6 +11,7 @@ public final class SurveyTest {
     eightLowest();
     wholeRound();
     zeroWorth();
+    roundEdges();
     plan();
     planTwoNear();
     planLower();
@@ -237,5 +238,18 @@ public final class SurveyTest {
     due.is("three calls at 4, one at 2", x.plan(1, 1), 6);
     due.is("corner 4", x.planned(1, 1, 0), 4);
     due.is("both", x.plan(2, 1), 8);
+  }
+
+  static void roundEdges() {
+    due.part("promises 42, 43, edges");
+    CityBrigade x = new CityBrigade();
+    x.street(0, 1, 3);
+    x.house(1, 0, 1, 1, -1);
+    for (int what = 0; what < 3; what++) due.is("within 0", x.round(0, 0, what), 0);
+    due.none("within 501", x.rounded(0, 501, 0));
+    due.none("within -1", x.rounded(0, -1, 0));
+    due.none("corner 20", x.rounded(20, 500, 0));
+    due.is("within 500", x.rounded(0, 500, 0), 0);
+    due.none("within 501", x.round(0, 501, 0));
   }
 }

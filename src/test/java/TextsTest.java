@@ -32,6 +32,14 @@ public final class TextsTest {
     due.none("more than 200", x.feed(0, 0, 0, 0, 1));
     due.is("count(13)", x.count(13), 200);
     due.is("nothing more", x.feed(0, 0, 0, 0, 0), 200);
+    for (int word = 0; word < 5; word++) {
+      x.end(197);
+      int[] v = new int[5];
+      v[word] = -1;
+      due.none("four more in number " + word, x.feed(v[0], v[1], v[2], v[3], v[4]));
+      v[word] = 0x00414141;
+      due.is("three more in number " + word, x.feed(v[0], v[1], v[2], v[3], v[4]), 200);
+    }
     due.yes("end(190)", x.end(190));
     due.none("eleven more", x.feed(-1, -1, 0x00010101, 0, 0));
     due.is("all or nothing", x.count(13), 190);
