@@ -674,7 +674,7 @@ public final class CityBrigade {
             int here = reached[gone];
             for (int s = 0; s < number; s++) {
                 int then = gone + (lasts[s] * jams[s * PARTS + part] * slow + 9999) / 10_000;
-                if (shut[s] || !within(then, 0, LONGEST)) {
+                if (shut[s] || then < 0 || then > LONGEST) {
                     continue;
                 }
                 if ((here >> one[s] & 1) == 1) {
@@ -2174,6 +2174,8 @@ public final class CityBrigade {
         final int[] stopHouses = new int[MOST_STOPS];
         final int[] stopWorths = new int[MOST_STOPS];
         int candidates;
+        // By sets of these, as bits.
+        final int[] worths = new int[1 << MOST_STOPS];
         // By the stops that are left (as bits) and the one where one is: the least minutes till one is back.
         final int[] rest = new int[(1 << MOST_STOPS) * MOST_STOPS];
         int base;
@@ -2197,6 +2199,7 @@ public final class CityBrigade {
         void goRound(int corner, int within, int now) {
             base = corner;
             findStops(now);
+            fillWorths();
             fillSteps();
             fillRest();
             findBest(within);
@@ -2241,12 +2244,13 @@ public final class CityBrigade {
             }
         }
 
-        int worthOf(int set) {
-            int sum = 0;
-            for (int i = 0; i < candidates; i++) {
-                sum += (set >> i & 1) * stopWorths[i];
+        void fillWorths() {
+            for (int set = 0; set < 1 << candidates; set++) {
+                worths[set] = 0;
+                for (int i = 0; i < candidates; i++) {
+                    worths[set] += (set >> i & 1) * stopWorths[i];
+                }
             }
-            return sum;
         }
 
         // Minutes from where one is through all stops of a set, one of them first, and back to the base.
@@ -2258,7 +2262,7 @@ public final class CityBrigade {
             worth = 0;
             minutes = 0;
             for (int set = 1; set < 1 << candidates; set++) {
-                int its = worthOf(set);
+                int its = worths[set];
                 for (int first = 0; first < candidates; first++) {
                     if ((set >> first & 1) == 0) {
                         continue;
@@ -2303,7 +2307,7 @@ public final class CityBrigade {
         boolean isBestWith(int seen, int at, int used, int stop) {
             for (int set = 0; set < 1 << candidates; set++) {
                 boolean fits = (set & seen) == 0 && (set >> stop & 1) == 1;
-                if (fits && worthOf(set | seen) == worth && used + through(set, at, stop) == minutes) {
+                if (fits && worths[set | seen] == worth && used + through(set, at, stop) == minutes) {
                     return true;
                 }
             }

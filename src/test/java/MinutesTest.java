@@ -676,7 +676,7 @@ public final class MinutesTest {
     x.floor(0, 0, 500, 0);
     x.floor(0, 1, 500, 0);
     x.crew(0, 1, false, 100, 1);
-    Due.leaving(x, "b>92");
+    Due.leaving(x, "b=93|b=96");
     x.light(0, 0);
     x.tick(9);
     x.floor(0, 0, 0, 0);
@@ -685,7 +685,7 @@ public final class MinutesTest {
     x.tick(1);
     due.is("LOAD 54 of 60 is 90: on the floor", x.about(0, 5), 1);
     x.tick(1);
-    due.is("LOAD 56 of 60 is 93: in the street", x.about(0, 5), -1);
+    due.is("LOAD 56 of 60 is 93, then 58 is 96: in the street", x.about(0, 5), -1);
     x.tick(1);
     due.is("it fell", x.floored(0, 1, 1), 1);
     due.is("nobody was on it", x.about(0, 0), 2);
