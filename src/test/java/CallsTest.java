@@ -73,6 +73,14 @@ public final class CallsTest {
     due.none("the sixty-first", x.call(0));
     due.is("count(4)", x.count(4), 60);
     due.is("still an open one", x.call(7), 47);
+    // All that goes through the calls, with sixty of them: nobody lacked but at the corners 1 to 19, two words at 7.
+    due.is("SHORT in all", x.count(7), 19 + 2);
+    x.house(7, 2, 1, 1, -1);
+    x.floor(0, 0, 5, 0);
+    x.light(0, 0);
+    due.is("a minute with sixty calls", x.tick(1), 42);
+    due.is("open ones", x.count(5), 19);
+    due.is("falses(0, 0)", x.falses(0, 0), 100);
   }
 
   static void nearestFirst() {

@@ -157,6 +157,9 @@ public final class LawTest {
     due.no("one change more", x.change(0, 5, 0));
     due.no("one look more", x.look(0));
     due.is("the last change", x.used(0, 0), 9);
+    Due.act(x, "l=0&u=9?5", 1);
+    due.is("letters behind a hundred", x.code(0, 0, 0), 5);
+    due.no("use behind a hundred", x.use(0, 1));
   }
 
   static void fails() {
