@@ -16,6 +16,7 @@ public final class EdgesOfCallsTest {
     leastCome();
     shortOnes();
     moves();
+    lonelyOnes();
     noMoves();
     called();
     falses();
@@ -118,6 +119,14 @@ public final class EdgesOfCallsTest {
     // Who moves: READY ones whose POST is that of another READY one, the one with the least COME, of several the lowest.
     run("MOVES, the least COME", List.of("street(0, 1, 6) = 0", "street(2, 1, 3) = 1", "street(1, 5, 1) = 2"), "crew(0, 0, false, 100, 1) = 0", "crew(0, 0, false, 50, 1) = 1", "crew(0, 2, false, 100, 1) = 2", "crew(0, 2, false, 100, 1) = 3", "crew(2, 1, false, 100, 1) = 4",
         "text 1=1?l1m1", "orders() = 0", "call(5) = 0", "about(0, 0) ! 0", "about(1, 0) ! 3", "about(1, 2) ! 3", "about(2, 0) ! 0", "about(3, 0) ! 0");
+  }
+
+  // A READY one that is alone at its POST, or there with one that is GOING, does not move, though it is nearer.
+  static void lonelyOnes() {
+    List<String> town = List.of("street(0, 1, 1) = 0", "street(1, 2, 1) = 1", "street(1, 3, 9) = 2", "crew(2, 1, false, 100, 1) = 0", "crew(0, 2, false, 100, 1) = 1", "crew(0, 3, false, 100, 1) = 2");
+    run("MOVES, all alone", town, "text 1=1?l1m9", "orders() = 0", "call(0) = 0", "about(0, 0) ! 1", "about(1, 0) ! 0", "about(2, 0) ! 0");
+    run("MOVES, two at one POST", town, "crew(3, 3, false, 100, 1) = 3", "text 1=1?l1m9", "orders() = 0", "call(0) = 0", "about(1, 0) ! 0", "about(2, 0) ! 3", "about(2, 1) ! 1", "about(2, 2) ! 9", "about(3, 0) ! 0");
+    run("MOVES, one of two is GOING", town, "crew(3, 2, false, 100, 1) = 3", "text 1=1?l1c1m9", "orders() = 0", "call(0) = 0", "about(3, 0) ! 1", "about(1, 0) ! 0", "about(2, 0) ! 0");
   }
 
   static void noMoves() {

@@ -6,6 +6,7 @@ public final class EdgesOfHousesTest {
     house();
     houseAtFirst();
     twelveHouses();
+    twelveFullHouses();
     build();
     use();
     floor();
@@ -46,6 +47,22 @@ public final class EdgesOfHousesTest {
         "light(11, 3) = true", "light(12, 0) ! false", "room(11, 3, 0) ! 400", "room(12, 0, 0) ! -1", "housed(11, 0) ! 1", "housed(12, 0) ! -1",
         "build(11, true, 3, 200) = true", "build(12, true, 3, 200) ! false", "use(11, 9) = true", "use(12, 9) ! false", "look(11) = true", "look(12) ! false",
         "change(11, 1, 0) = true", "change(12, 1, 0) ! false", "what(11, 3, 0, 1) ! 2", "what(12, 0, 0, 1) ! -1", "used(11, 0) ! 1", "used(12, 0) ! -1");
+  }
+
+  // Twelve of 24 rooms each: no room of one is a room of another, or beside it.
+  static void twelveFullHouses() {
+    java.util.List<String> lines = new java.util.ArrayList<>();
+    for (int h = 0; h < 12; h++) {
+      lines.add("house(" + h + ", 2, 6, 4, -1) = " + h);
+      for (int f = 0; f < 6; f++) lines.add("floor(" + h + ", " + f + ", " + (10 * h + f) + ", " + f + ") = true");
+    }
+    for (int h = 0; h < 12; h++) for (int r = 0; r < 24; r++) lines.add("room(" + h + ", " + r + ", 1) = " + (10 * h + r / 4));
+    Run.of(due, "promise 7, twelve full ones", lines.toArray(new String[0]));
+    while (lines.size() > 84) lines.remove(84);
+    for (String s : new String[] {"floor(1, 0, 500, 0) = true", "light(1, 0) = true", "floor(0, 5, 0, 0) = true", "light(0, 20) = true", "light(0, 23) = true", "floor(11, 5, 500, 0) = true", "light(11, 23) = true", "floor(10, 5, 0, 0) = true", "light(10, 23) = true", "light(11, 0) = true",
+        "floor(11, 0, 0, 0) = true", "housed(0, 0) ! 0", "housed(11, 0) ! 1", "tick(1) = 1", "room(0, 20, 0) ! 390", "room(0, 23, 0) ! 390", "room(1, 0, 0) ! 450", "room(11, 23, 0) ! 450", "room(10, 23, 0) ! 390", "room(11, 0, 0) ! 390", "room(11, 19, 0) ! 0", "housed(11, 1) ! 2", "housed(10, 1) ! 0", "floored(11, 5, 0) ! 2",
+        "housed(1, 1) ! 2", "housed(0, 1) ! 0"}) lines.add(s);
+    Run.of(due, "promise 7, twelve full ones burn", lines.toArray(new String[0]));
   }
 
   static void build() {

@@ -16,7 +16,10 @@ public final class EdgesOfMinutesTest {
     goingOver();
     ladders();
     withoutWater();
+    noRoomWithinReach();
+    waterOfThisMinute();
     chief();
+    chiefFirstOrLast();
     pressure();
     mains();
     leaving();
@@ -130,6 +133,18 @@ public final class EdgesOfMinutesTest {
     }
   }
 
+  // The last room within REACH is out: it stays at WORK, on no floor, without water.
+  static void noRoomWithinReach() {
+    Run.of(due, "no room within REACH", "main(2000) = 0", "head(1, 0) = 0", "text 1=1?p1", "orders() = 0", "house(1, 2, 6, 1, -1) = 0", "floor(0, 4, 500, 0) = true", "floor(0, 5, 500, 0) = true", "light(0, 4) = true", "light(0, 5) = true", "crew(0, 1, false, 100, 1) = 0", "call(1) = 0", "tick(1) = 1", "about(0, 5) ! 4", "about(0, 8) ! 10", "floor(0, 4, 0, 0) = true", "tick(1) = 2",
+        "about(0, 0) ! 2", "about(0, 4) ! 0", "about(0, 5) ! -1", "about(0, 8) ! 0", "housed(0, 6) ! 10");
+  }
+
+  // A CHIEF sees the WATER of this minute alone: what was put on a room in the last one does not count.
+  static void waterOfThisMinute() {
+    Run.of(due, "WATER so far in this MINUTE", "main(2000) = 0", "head(1, 0) = 0", "text 1=1?p1c1", "orders() = 0", "house(1, 2, 3, 1, -1) = 0", "floor(0, 0, 500, 0) = true", "floor(0, 2, 500, 0) = true", "light(0, 2) = true", "tick(1) = 1", "light(0, 0) = true", "crew(0, 1, false, 100, 1) = 0", "gear(0, 100, 80, 0) = true", "crew(3, 1, false, 100, 1) = 1", "call(1) = 0", "tick(1) = 2",
+        "about(0, 5) ! 2", "room(0, 2, 0) ! 480", "room(0, 0, 0) ! 450", "tick(1) = 3", "about(0, 5) ! 2", "room(0, 2, 0) ! 510", "room(0, 0, 0) ! 500", "tick(1) = 4", "about(0, 5) ! 2", "room(0, 2, 0) ! 540", "room(0, 0, 0) ! 550", "tick(1) = 5", "about(0, 5) ! 0");
+  }
+
   static void chief() {
     // Room 0 has 400, room 2 450, room 3 450: without a CHIEF the lowest, with one the hottest, of several the lowest.
     List<String> town = List.of("main(2000) = 0", "head(1, 0) = 0", "house(1, 2, 2, 2, -1) = 0", "floor(0, 0, 500, 0) = true", "floor(0, 1, 500, 0) = true", "crew(0, 1, false, 100, 1) = 0", "crew(0, 1, false, 100, 1) = 1", "crew(3, 1, false, 100, 1) = 2", "light(0, 3) = true", "tick(1) = 1", "light(0, 0) = true");
@@ -141,6 +156,15 @@ public final class EdgesOfMinutesTest {
     for (int gallons : new int[] {199, 200, 203, 204}) {
       run("HEAT less the WATER by 4: " + gallons, town, "gear(0, 100, " + gallons + ", 0) = true", "text 1=1?p2c1", "orders() = 0", "call(1) = 0", "tick(1) = 2", "about(0, 5) ! 1", "about(1, 5) ! " + (gallons == 199 ? 1 : 0));
     }
+  }
+
+  // The CHIEF is the first crew, or the sixteenth.
+  static void chiefFirstOrLast() {
+    List<String> town = List.of("main(2000) = 0", "head(1, 0) = 0", "house(1, 2, 2, 1, -1) = 0", "floor(0, 0, 500, 0) = true", "floor(0, 1, 500, 0) = true", "light(0, 1) = true", "tick(1) = 1", "light(0, 0) = true", "text 1=1?p1c1", "orders() = 0");
+    run("the first crew is a CHIEF", town, "crew(3, 1, false, 100, 1) = 0", "crew(0, 1, false, 100, 1) = 1", "call(1) = 0", "tick(1) = 2", "about(1, 5) ! 1");
+    run("the sixteenth crew is a CHIEF", town, "crew(0, 1, false, 100, 1) = 0", "crew(2, 5, false, 100, 1) * 14", "crew(3, 1, false, 100, 1) = 15", "call(1) = 0", "tick(1) = 2", "about(0, 5) ! 1");
+    run("a CHIEF in another house", town, "house(1, 2, 1, 3, -1) = 1", "build(0, false, 3, 1) = true", "build(1, false, 3, 1) = true", "floor(1, 0, 500, 0) = true", "crew(0, 1, false, 100, 1) = 0", "crew(3, 1, false, 100, 1) = 1", "text w=1?p1;w=2?c1", "orders() = 1", "call(1) = 0", "tick(1) = 2", "about(0, 5) ! 0", "light(1, 0) = true", "light(1, 1) = true", "light(1, 2) = true", "call(1) = 0",
+        "tick(1) = 3", "about(1, 4) ! 1", "about(0, 4) ! 0", "about(0, 5) ! 0");
   }
 
   static void pressure() {
@@ -195,6 +219,9 @@ public final class EdgesOfMinutesTest {
     // LOAD 56 of 60 is 93.3, cut; in the second minute e is 1; on floor 0 b is 0, whatever burnt.
     Run.of(due, "LEAVING, cut", "main(100) = 0", "head(1, 0) = 0", "text 1=1?p1", "orders() = 0", "text b=93&e=1", "leaving() = true", "house(1, 0, 2, 1, -1) = 0", "floor(0, 0, 500, 0) = true", "light(0, 0) = true", "crew(0, 1, false, 100, 7) = 0", "tick(9) = 9", "floor(0, 0, 0, 0) = true", "floor(0, 1, 500, 0) = true", "light(0, 1) = true", "call(1) = 0",
         "tick(1) = 10", "about(0, 8) ! 10", "tick(1) = 11", "floored(0, 1, 3) ! 58", "about(0, 8) ! 5");
+    // All rooms of the house, not of the floor or of its reach: three, and none beside.
+    Run.of(due, "LEAVING, letter g", "main(100) = 0", "head(1, 0) = 0", "text 1=1?p1", "orders() = 0", "text g=3", "leaving() = true", "house(1, 2, 2, 2, -1) = 0", "house(1, 2, 1, 1, -1) = 1", "floor(0, 0, 500, 0) = true", "floor(0, 1, 500, 0) = true", "floor(1, 0, 500, 0) = true", "light(0, 0) = true", "light(0, 2) = true", "light(0, 3) = true", "light(1, 0) = true",
+        "crew(0, 1, false, 100, 7) = 0", "call(1) = 0", "tick(1) = 1", "about(0, 8) ! 5", "light(0, 1) = true", "tick(1) = 2", "about(0, 8) ! 10", "text g=4", "leaving() = true", "tick(1) = 3", "about(0, 8) ! 5");
     Run.of(due, "LEAVING, floor 0", "main(100) = 0", "head(1, 0) = 0", "text 1=1?p1", "orders() = 0", "text b=0&v=0", "leaving() = true", "house(1, 0, 2, 1, -1) = 0", "floor(0, 0, 500, 0) = true", "light(0, 0) = true", "crew(0, 1, false, 100, 7) = 0", "tick(5) = 5", "floored(0, 0, 0) ! 13", "call(1) = 0", "tick(1) = 6", "about(0, 8) ! 5");
   }
 
@@ -214,7 +241,9 @@ public final class EdgesOfMinutesTest {
           "tick(1) = 1", "room(0, 0, 0) ! " + (out ? 299 : 300), "called(0, 2) ! " + (out ? 1 : 0), "called(0, 4) ! " + (out ? 1 : -1), "about(0, 0) ! " + (out ? 0 : 2), "housed(0, 5) ! " + (out ? 0 : 2), "about(0, 6) ! " + (out ? 0 : 2));
     }
     // Nothing left to burn: OUT in that very minute.
-    Run.of(due, "OUT without stuff", "text w=1?c1", "orders() = 0", "house(1, 2, 1, 1, -1) = 0", "floor(0, 0, 2, 0) = true", "light(0, 0) = true", "crew(3, 1, false, 100, 1) = 0", "call(1) = 0", "tick(1) = 1", "called(0, 2) ! 1", "called(0, 4) ! 1", "about(0, 0) ! 0");
+    Run.of(due, "OUT without stuff", "text w=1?c1", "orders() = 0", "house(1, 2, 1, 1, -1) = 0", "floor(0, 0, 2, 0) = true", "light(0, 0) = true", "crew(3, 1, false, 100, 1) = 0", "call(1) = 0", "tick(1) = 1", "called(0, 2) ! 1", "called(0, 4) ! 1", "about(0, 0) ! 0", "about(0, 4) ! -1");
+    Run.of(due, "OUT, at WORK for a while", "main(100) = 0", "head(1, 0) = 0", "text w=1?p1", "orders() = 0", "house(1, 2, 1, 1, -1) = 0", "floor(0, 0, 500, 0) = true", "light(0, 0) = true", "crew(0, 1, false, 100, 1) = 0", "call(1) = 0", "tick(2) = 2", "about(0, 4) ! 0", "about(0, 5) ! 0", "floor(0, 0, 0, 0) = true", "tick(1) = 3", "about(0, 0) ! 0", "about(0, 4) ! -1", "about(0, 5) ! -1",
+        "about(0, 8) ! 0");
     Run.of(due, "one is left to burn", "text w=1?c1", "orders() = 0", "house(1, 2, 1, 1, -1) = 0", "floor(0, 0, 3, 0) = true", "light(0, 0) = true", "crew(3, 1, false, 100, 1) = 0", "call(1) = 0", "tick(1) = 1", "called(0, 2) ! 0", "about(0, 0) ! 2", "tick(1) = 2", "called(0, 2) ! 1", "called(0, 4) ! 2");
     // Burnt out, and nobody is at WORK: OPEN till one is there.
     Run.of(due, "nobody is there", "house(1, 2, 1, 1, -1) = 0", "floor(0, 0, 2, 0) = true", "light(0, 0) = true", "call(1) = 0", "tick(300) = 300", "called(0, 2) ! 0", "count(5) ! 1");

@@ -96,7 +96,9 @@ public final class EdgesOfStreetsTest {
         "come(0, 1, 0, 50) ! 1", "come(0, 1, 0, 99) ! 1", "come(0, 1, 0, 100) ! 1", "come(0, 1, 0, 101) ! 2", "come(0, 1, 0, 200) ! 2", "come(0, 1, 0, 201) ! 3",
         "come(0, 1, 0, 300) ! 3", "come(0, 1, 360, 50) ! 361", "come(0, 1, 360, 51) ! 362", "come(2, 3, 0, 300) ! 240", "come(2, 3, 0, 299) ! 240",
         // 20 times 299 times 400 is 2,392,000: 239.2; 20 times 295 times 400 is 236 and no more.
-        "come(2, 3, 0, 295) ! 236", "come(2, 3, 0, 50) ! 40");
+        "come(2, 3, 0, 295) ! 236", "come(2, 3, 0, 50) ! 40",
+        // 1 times 113 times 177 is 20,001; 4 times 393 times 299 is 470,028; 4 times 400 times 250 is 400,000.
+        "jam(0, 2, 113) = true", "come(0, 1, 720, 177) ! 723", "come(0, 1, 720, 176) ! 722", "street(4, 5, 4) = 2", "jam(2, 0, 393) = true", "come(4, 5, 0, 299) ! 48", "jam(2, 0, 400) = true", "come(4, 5, 0, 250) ! 40");
   }
 
   static void comeWithoutWaiting() {

@@ -20,6 +20,7 @@ public final class EdgesOfTextsTest {
     twentyOrders();
     leaving();
     bounded();
+    truths();
     full();
     due.over();
   }
@@ -223,6 +224,36 @@ public final class EdgesOfTextsTest {
     says("1000*1000+[1-2]=999*1001", true);
     says("w*500*1000=1000*1000", true);
     says("w*500*1000+w-w=999*1001-1", true);
+  }
+
+  /** All sixteen ways in which four units can hold or not: & binds before |, ! before both, ( ) before all. */
+  static void truths() {
+    String[] units = {"w=3", "w=2"};
+    for (int bits = 0; bits < 16; bits++) {
+      boolean a = (bits & 1) > 0, b = (bits & 2) > 0, c = (bits & 4) > 0, d = (bits & 8) > 0;
+      String p = units[a ? 1 : 0], q = units[b ? 1 : 0], r = units[c ? 1 : 0], s = units[d ? 1 : 0];
+      says(p + "|" + q + "&" + r + "|" + s, a || b && c || d);
+      says(p + "&" + q + "|" + r + "&" + s, a && b || c && d);
+      says("(" + p + "|" + q + ")&(" + r + "|" + s + ")", (a || b) && (c || d));
+      says("!" + p + "&" + q + "|!" + r + "&" + s, !a && b || !c && d);
+      says("!(" + p + "&" + q + ")|!!(" + r + "&!" + s + ")", !(a && b) || c && !d);
+    }
+    // One less, the same, one more: = < >; * binds before + and -, which go from the left; [ ] before all.
+    String[] less = {"1", "2", "3"};
+    for (int i = 0; i < 3; i++) {
+      says("w=" + less[i], i == 1);
+      says("w<" + less[i], i == 2);
+      says("w>" + less[i], i == 0);
+    }
+    says("9-w-3=4", true);
+    says("9-[w-3]=10", true);
+    says("9-w+3=10", true);
+    says("9-w*3=3", true);
+    says("[9-w]*3=21", true);
+    says("1+w*3+4*w-1=14", true);
+    says("w*w*w=8", true);
+    says("0-w<0", true);
+    says("0-w>0-3", true);
   }
 
   // 200 bytes that all can go on and are no text; 200 that are one.
