@@ -33,6 +33,9 @@ public final class EdgesOfStreetsTest {
     Run.of(due, "promise 1", lines);
     for (int what = 0; what <= 16; what++) Run.of(due, "promise 1, count", "count(" + what + ") ! 0");
     Run.of(due, "promise 1, count", "count(-1) ! -1", "count(17) ! -1");
+    // The 512th call is answered as any other one.
+    Run.of(due, "512 calls", "street(0, 1, 21) * 510", "street(0, 1, 20) = 0", "feet(0, 1) = 2000");
+    Run.of(due, "512 calls", "row(4) * 511", "row(3) = 0");
   }
 
   static void street() {
