@@ -8,6 +8,7 @@ public final class EdgesOfFireTest {
     gainFromFloors();
     gainFromBeside();
     heatWithin();
+    lastHeat();
     whatIsLost();
     waterByFour();
     loadByKinds();
@@ -76,6 +77,15 @@ public final class EdgesOfFireTest {
     // 990 and 50 is 1,000; 1,000 less 10 is 990.
     Run.of(due, "HEAT 990", "house(0, 2, 1, 1, -1) = 0", "floor(0, 0, 500, 0) = true", "light(0, 0) = true", "tick(12) = 12", "floor(0, 0, 0, 0) = true", "tick(1) = 13", "room(0, 0, 0) ! 990",
         "floor(0, 0, 500, 0) = true", "tick(1) = 14", "room(0, 0, 0) ! 1000");
+  }
+
+  // 36 gallons by 4 make 441 of 400, 40 make 440: less 10 a minute it comes to 1, or to 0, and is 0 then.
+  static void lastHeat() {
+    for (int gallons : new int[] {36, 40, 4 * 42}) {
+      int heat = 450 - gallons / 4;
+      Run.of(due, "the last HEAT of " + heat, "main(2000) = 0", "head(0, 0) = 0", "house(0, 2, 1, 1, -1) = 0", "floor(0, 0, 500, 0) = true", "light(0, 0) = true", "crew(0, 0, false, 100, 1) = 0", "gear(0, 100, " + gallons + ", 0) = true", "text 1=1?p1", "orders() = 0", "call(0) = 0", "tick(1) = 1", "room(0, 0, 0) ! " + heat, "floor(0, 0, 0, 0) = true",
+          "tick(" + heat / 10 + ") = " + (heat / 10 + 1), "room(0, 0, 0) ! " + heat % 10, "tick(1) = " + (heat / 10 + 2), "room(0, 0, 0) ! 0", "tick(1) = " + (heat / 10 + 3), "room(0, 0, 0) ! 0");
+    }
   }
 
   static void whatIsLost() {
