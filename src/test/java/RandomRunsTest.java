@@ -886,11 +886,14 @@ public final class RandomRunsTest {
     int wrong;
     final int spread;
     final boolean dear;
+    // Great fires at few corners, with crews, heads and orders for all of them.
+    final boolean busy;
 
     Run(long seed) {
       this.seed = seed;
       random = new Random(seed);
-      spread = 2 + random.nextInt(random.nextInt(4) == 0 ? 19 : 6);
+      busy = seed % 3 == 0;
+      spread = busy ? 1 + random.nextInt(3) : 2 + random.nextInt(random.nextInt(4) == 0 ? 19 : 6);
       dear = random.nextInt(6) == 0;
     }
 
@@ -953,6 +956,38 @@ public final class RandomRunsTest {
       n = random.nextInt(12);
       for (int i = 0; i < n; i++) newCrew();
       if (random.nextInt(3) > 0) simpleOrders();
+    }
+    void buildBusy() {
+      for (int i = 0; i < 2 * spread; i++) { int a = corner(), b = corner(), c = between(1, 6); same("street(" + a + "," + b + "," + c + ")", x.street(a, b, c), m.street(a, b, c)); }
+      for (int i = 2 + random.nextInt(5); i > 0; i--) newHouse();
+      for (int i = 1 + random.nextInt(3); i > 0; i--) newMain();
+      for (int i = 0; i < spread; i++) { int k = odd(random.nextInt(Math.max(1, m.mains.size()))); same("head(" + i + "," + k + ")", x.head(i, k), m.head(i, k)); }
+      for (int i = 8 + random.nextInt(9); i > 0; i--) newCrew();
+      same("end(0)", x.end(0), m.end(0));
+      String[] some = {"1=1?p9s9l9c9m9", "w=1?p2s2l1;w=2?p3s3c1m2;w=3?s9l9c9m9", "1=1?p3s2l1;k>1?c1m1"};
+      feed(some[random.nextInt(some.length)]);
+      same("orders()", x.orders(), m.orders());
+      if (random.nextBoolean()) tellLeaving();
+    }
+    void tellLeaving() {
+      String[] some = {"b>80", "v>0&b>95", "e>20|t>900", "m<3|g>8", "!b<100&v>1", "e*v>30", "t=1000"};
+      same("end(0)", x.end(0), m.end(0));
+      feed(some[random.nextInt(some.length)]);
+      same("leaving()", x.leaving(), m.leaving());
+    }
+    void oneBusy() {
+      switch (random.nextInt(24)) {
+        case 0: case 1: case 2: { int h = house(), r = between(0, random.nextBoolean() ? 3 : 23); same("light(" + h + "," + r + ")", x.light(h, r), m.light(h, r)); break; }
+        case 3: case 4: case 5: { int c = corner(); same("call(" + c + ")", x.call(c), m.call(c)); break; }
+        case 6: tellFloor(house(), between(0, 5)); break;
+        case 7: newGear(crew()); break;
+        case 8: { int c = crew(); same("heal(" + c + ")", x.heal(c), m.heal(c)); break; }
+        case 9: { int c = crew(); same("recall(" + c + ")", x.recall(c), m.recall(c)); break; }
+        case 10: if (random.nextInt(4) == 0) tellLeaving(); break;
+        case 11: { int h = house(), r = between(0, 11), g = between(0, 500), n = between(1, 60); same("what(" + h + "," + r + "," + g + "," + n + ")", x.what(h, r, g, n), m.what(h, r, g, n)); break; }
+        case 12: one(); break;
+        default: { int n = between(0, random.nextBoolean() ? 2 : 9); same("tick(" + n + ")", x.tick(n), m.tick(n)); state(); break; }
+      }
     }
     void newHouse() {
       int a = corner(), k = between(0, 2), f = between(1, 6), r = between(1, 4), s = between(-1, 3);
@@ -1075,8 +1110,8 @@ public final class RandomRunsTest {
 
     static int hurt, lost, saved, out, falses, fallen, worked, acts, moved;
     int go() {
-      build();
-      while (calls < 500 && wrong == 0) one();
+      if (busy) buildBusy(); else build();
+      while (calls < 500 && wrong == 0) if (busy) oneBusy(); else one();
       everything();
       hurt += m.count(10); lost += m.count(9); saved += m.count(8); falses += m.count(6); acts += m.count(11);
       out += (int) m.calls.stream().filter(c -> c.state == 1).count();
